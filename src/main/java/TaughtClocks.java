@@ -631,7 +631,7 @@ public final class TaughtClocks {
         }
 
         boolean canLearn(int pupil) {
-            int kind = house.kindOf(pupil);
+            int kind = at(house.kinds, pupil);
             return kind != BLIND && (kind != SUNDAY || day % DAYS_OF_WEEK == SUNDAY_OF_WEEK);
         }
 
@@ -643,9 +643,10 @@ public final class TaughtClocks {
         }
 
         private int wrongWhenTaught(int teacher, int pupil) {
-            int shown = wrongOf(teacher);
-            switch (house.kindOf(pupil)) {
-                case SLOW: return wrongOf(pupil) + (shown - wrongOf(pupil)) / 2;
+            int shown = at(wrong, teacher);
+            int own = at(wrong, pupil);
+            switch (at(house.kinds, pupil)) {
+                case SLOW: return own + (shown - own) / 2;
                 case CUCKOO: return Math.min(MOST_WRONG, shown + 1);
                 default: return shown;
             }
@@ -700,7 +701,7 @@ public final class TaughtClocks {
         }
 
         int minutesApart(int a, int b) {
-            return Math.abs(wrongOf(a) - wrongOf(b));
+            return Math.abs(at(wrong, a) - at(wrong, b));
         }
 
         /** Noon: the one that as many are below and above as its place in the order asks. */

@@ -60,6 +60,16 @@ public final class ComesTest {
         DUE.is("right(0, 0)", 2, x.right(0, 0));
         DUE.is("right(0, 1)", 20, x.right(0, 1));
         DUE.is("right(0, 2)", 1, x.right(0, 2));
+        // By one lesson of a later one to 0.
+        x = Due.laid("c0,150,10;c3,100,10;");
+        DUE.is("right(0, 0) by 1", 1, x.right(0, 0));
+        DUE.is("right(0, 1) by 1", 10, x.right(0, 1));
+        // What is tried first (0 to 1, 0 to 2) leaves no trace in what is tried later.
+        x = Due.laid("c0,150,10;c0,101,10;c3,100,10;c0,140,10;");
+        DUE.is("right(1, 0) of four", 2, x.right(1, 0));
+        DUE.is("right(1, 1) of four", 10, x.right(1, 1));
+        DUE.is("right(1, 2) of four", 3, x.right(1, 2));
+        DUE.is("right(0, 0) of four", -4, x.right(0, 0));
         // A slow one, taught twice: 40, 20, 10.
         x = Due.laid("c0,100,10;c1,140,10;");
         DUE.is("right(10, 0)", 2, x.right(10, 0));
@@ -90,6 +100,11 @@ public final class ComesTest {
         DUE.is("ring(8)", -1, x.ring(8));
         DUE.is("ring(-1)", -1, x.ring(-1));
         DUE.wrongsAre("ring", "50,0,-10", x);
+        x.set(0);
+        DUE.is("ring(0) of the set one", 10, x.ring(0));
+        DUE.is("ring(2) of the set one", 1, x.ring(2));
+        x.undo();
+        DUE.is("ring(0) of it undone", 70, x.ring(0));
         x = Due.laid("c3,90,10;");
         DUE.is("ring(0) of one", 10, x.ring(0));
         DUE.is("ring(1) of one", 0, x.ring(1));
@@ -133,6 +148,13 @@ public final class ComesTest {
         for (int c = 0; c < 4; c++) {
             DUE.is("pairs(" + c + ")", mates[c], x.pairs(c));
         }
+        x.set(3);
+        x.teach(3, 1);
+        DUE.is("pairs(-1) then", 45, x.pairs(-1));
+        DUE.is("pairs(0) then", 1, x.pairs(0));
+        x.undo();
+        x.undo();
+        DUE.is("pairs(-1) again", 7, x.pairs(-1));
         DUE.is("pairs(4)", -1, x.pairs(4));
         DUE.is("pairs(-2)", -1, x.pairs(-2));
         x = Due.laid("c0,100,10;c0,100,10;c0,100,10;");

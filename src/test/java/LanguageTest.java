@@ -102,7 +102,7 @@ public final class LanguageTest {
         String code = source.replaceAll("(?s)/\\*.*?\\*/", " ").replaceAll("//[^\n]*", " ")
             .replaceAll("\"[^\"\n]*\"", "\"\"");
         Matcher forbidden = Pattern.compile("->|::|\\b(import|package|try|catch|finally|throw|throws|assert|synchronized|"
-            + "native|volatile|System|Object|Thread|Random|protected|yield|while)\\b").matcher(code);
+            + "native|volatile|System|Object|Thread|Random|protected|yield)\\b").matcher(code);
         while (forbidden.find()) {
             no("a word of the source: " + forbidden.group());
         }

@@ -66,6 +66,22 @@ public final class YearsTest {
         DUE.is("year(0, 1, -1)", -1, x.year(0, 1, -1));
         DUE.wrongsAre("year", "0,50,90,80,20", x);
         DUE.is("no day goes by", 0, x.count(3) + x.count(6));
+        // Worked out apart from the program, draw by draw.
+        x = Due.laid("c0,101,10;c0,102,10;c0,104,10;c0,108,10;c0,116,10;c0,132,10;c0,164,10;");
+        DUE.is("year(9999, 3, 0)", 604, x.year(9999, 3, 0));
+        DUE.is("year(2, 10, 0)", 616, x.year(2, 10, 0));
+        x = Due.laid("c0,101,11;c0,102,12;c0,104,13;c0,108,14;c0,116,15;c0,132,16;c0,164,17;");
+        DUE.is("year(9999, 60, 0)", 903, x.year(9999, 60, 0));
+        DUE.is("year(4321, 37, 0)", 822, x.year(4321, 37, 0));
+        x = Due.laid("c0,100,11;c4,100,12;c3,100,13;c2,100,14;c0,100,15;c0,100,16;c0,164,3;");
+        int[] noons = {603, 604, 609, 612, 613, 618, 621, 624};
+        for (int n = 1; n <= 8; n++) {
+            DUE.is("year(1234, " + n + ", 0)", noons[n - 1], x.year(1234, n, 0));
+        }
+        // Days go by as ever in it: with lessons told, through walls.
+        x = Due.laid("c0,101,10;c3,105,10;w0,1;l1,1,0;");
+        DUE.is("year(0, 1, 0) through a wall", 602, x.year(0, 1, 0));
+        DUE.is("year(0, 2, 0) with a lesson", 604, x.year(0, 2, 0));
         x = Due.laid("c0,101,11;");
         DUE.is("year(9999, 60, 0) of one", 661, x.year(9999, 60, 0));
         DUE.is("year(9999, 60, 1) of one", 0, x.year(9999, 60, 1));
