@@ -11,6 +11,14 @@ final class Due {
         }
     }
 
+    void is(String call, String want, String got) {
+        asked++;
+        if (!got.equals(want)) {
+            wrong++;
+            System.out.println(call + " answered\n" + got + "\ndue is\n" + want);
+        }
+    }
+
     void end(String name) {
         System.out.println(name + ": " + asked + " answers, " + wrong + " not as due");
         if (wrong != 0) {

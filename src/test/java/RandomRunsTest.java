@@ -6,23 +6,30 @@ public final class RandomRunsTest {
         {Integer.MIN_VALUE, Integer.MIN_VALUE + 1, -601, -100, -11, -3, -2, 61, 101, 127, 1201, 10000,
          Integer.MAX_VALUE - 1, Integer.MAX_VALUE};
 
+    /** An object is used for at most 512 calls; one round makes up to four. */
+    private static final int MOST_CALLS = 512, CALLS_A_ROUND = 4;
+
     private static final Due DUE = new Due();
     private static Random random = new Random(1);
     private static TaughtClocks x;
     private static PlainHouse due;
     private static String run;
+    private static int calls;
 
     public static void main(String[] args) {
-        int runs = Integer.getInteger("runs", 600);
+        int runs = Integer.getInteger("runs", 1500);
         for (int i = 0; i < runs; i++) {
             random = new Random(i);
             run = "random run " + i + ": ";
             x = new TaughtClocks();
             due = new PlainHouse();
             // Some houses are the first one, most are told.
-            int calls = i % 8 == 0 ? 0 : layHouse();
-            for (; calls < 512; calls++) {
-                call();
+            calls = 0;
+            if (i % 8 != 0) {
+                layHouse();
+            }
+            while (calls <= MOST_CALLS - CALLS_A_ROUND) {
+                round();
             }
         }
         DUE.end("RandomRunsTest");
@@ -45,7 +52,7 @@ public final class RandomRunsTest {
         return number(0, Math.max(0, due.count(0) - 1));
     }
 
-    private static int layHouse() {
+    private static void layHouse() {
         String text = randomText();
         same("wipe()", due.wipe(), x.wipe());
         for (int i = 0; i < text.length(); i++) {
@@ -53,7 +60,6 @@ public final class RandomRunsTest {
         }
         same("fault() of " + text, due.fault(), x.fault());
         same("lay() of " + text, due.lay(), x.lay());
-        return text.length() + 3;
     }
 
     private static String randomText() {
@@ -89,10 +95,11 @@ public final class RandomRunsTest {
     }
 
     private static void same(String call, int want, int got) {
+        calls++;
         DUE.is(run + call, want, got);
     }
 
-    private static void call() {
+    private static void round() {
         int a = clock();
         int b = clock();
         switch (upTo(30)) {
@@ -124,6 +131,7 @@ public final class RandomRunsTest {
         int luck = upTo(3);
         // What is so, or would be so behind a lesson, is heard more often than by chance.
         int e = luck == 0 ? number(0, 1200) : luck == 1 ? 600 : Math.max(0, x.clock(luck == 2 ? a : b, 1));
+        calls++;
         same("hear " + a + " " + e, due.hear(a, e), x.hear(a, e));
     }
 
